@@ -421,8 +421,8 @@ public final class RentedMoments {
 
         /** Removes the old versions whose bits are not set; tells how many these were. */
         int retainOld(int seenPlaces) {
-            int left = 1;
-            for (int place = 1; place < places; place++) {
+            int left = NEWEST + 1;
+            for (int place = NEWEST + 1; place < places; place++) {
                 if ((seenPlaces >> place & 1) != 0) {
                     values[left] = values[place];
                     moments[left] = moments[place];
@@ -807,7 +807,7 @@ public final class RentedMoments {
             for (int i = 0; i < CELLS; i++) {
                 int seen = placesSeen(cells[i], committer);
                 boolean newestGetsOld = readers[committer].hasWrite(i);
-                old += Integer.bitCount(newestGetsOld ? seen : seen & ~1);
+                old += Integer.bitCount(newestGetsOld ? seen : seen & ~(1 << NEWEST));
             }
             return old;
         }

@@ -158,6 +158,8 @@ public final class CellsTest {
         x.read(2, 2);
         x.write(2, 1, 1);
         Due.is("it has seen the first", x.reader(2, 11), 0);
+        x.forbidSkew(true);
+        Due.is("what is no skew is not forbidden", x.commit(2), 2);
         x = new RentedMoments();
         x.open(0);
         x.open(0);

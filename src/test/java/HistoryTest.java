@@ -6,6 +6,8 @@ public final class HistoryTest {
         whatIsNoAct();
         keepAndRestore();
         snapshotIsNoState();
+        anUndoneReaderLeavesNoTrace();
+        readersAndCommitsComeBack();
         Due.end("HistoryTest");
     }
 
@@ -128,5 +130,60 @@ public final class HistoryTest {
         x.write(0, 1, 9);
         Due.is("what is done then is not in the snapshot", x.restore(), 0);
         Due.is("no write", x.reader(0, 5), 0);
+    }
+
+    private static void anUndoneReaderLeavesNoTrace() {
+        RentedMoments x = new RentedMoments();
+        x.keep();
+        x.open(5);
+        x.read(0, 3);
+        x.write(0, 4, 4);
+        Runs.commitOne(x, 9, 9);
+        x.widow(0, 1);
+        x.tick(2);
+        x.widow(0, 20);
+        x.close(0);
+        x.restore();
+        Due.is("the number again", x.open(6), 0);
+        int[] fresh = {0, 0, 6, 0, 0, 0, 0, 0, 0, 0, 0, 0};
+        for (int what = 0; what < fresh.length; what++) {
+            Due.is("fresh reader " + what, x.reader(0, what), fresh[what]);
+        }
+        Due.is("not read its write", x.read(0, 4), 0);
+        Due.is("no widow before", x.widow(0, 20), 0);
+        x.restore();
+        x.open(6);
+        Due.is("its term neither", x.reader(0, 6), 0);
+    }
+
+    private static void readersAndCommitsComeBack() {
+        RentedMoments x = new RentedMoments();
+        x.open(80);
+        x.open(70);
+        x.read(0, 5);
+        x.write(0, 0, 11);
+        x.read(1, 0);
+        x.write(1, 5, 55);
+        x.commit(0);
+        x.open(60);
+        x.read(2, 5);
+        x.write(2, 6, 66);
+        x.open(50);
+        x.widow(3, 1);
+        x.write(3, 8, 88);
+        x.commit(2);
+        x.keep();
+        String before = Runs.told(x);
+        for (int i = 0; i < 4; i++) {
+            x.undo();
+        }
+        // Another reader and another commit take the places of those that are kept.
+        Due.is("another commit", x.commit(1), 2);
+        Due.is("another reader", x.open(1), 3);
+        x.write(3, 8, 99);
+        x.restore();
+        Due.is("all is as it was kept", Runs.told(x).equals(before) ? 1 : 0, 1);
+        Due.is("the write too", x.read(3, 8), 88);
+        Due.is("a widow that was", x.widow(3, 1), RentedMoments.NOT_POSSIBLE);
     }
 }

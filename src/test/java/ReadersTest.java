@@ -254,6 +254,7 @@ public final class ReadersTest {
         Due.is("a purse that is just enough", x.tick(1), 0);
         Due.is("it is empty", x.reader(0, 2), 0);
         Due.is("it goes", x.tick(1), 1);
+        Due.is("its state", x.reader(0, 0), 3);
         Due.is("removed", x.count(8), 1);
         Due.is("versions", x.cell(0, 2), 1);
         Due.is("due of the evicted", x.reader(0, 3), 0);

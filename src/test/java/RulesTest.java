@@ -129,7 +129,7 @@ public final class RulesTest {
         }
         long bytes = bean.getCurrentThreadAllocatedBytes() - before;
         // What the measuring itself makes is far less than one small object for each call.
-        Due.is("bytes made by 700 calls: " + bytes, bytes > 4096 ? 1 : 0, 0);
+        Due.is("bytes made by all calls: " + bytes, bytes > 4096 ? 1 : 0, 0);
     }
 
     private static void callAll(RentedMoments x) {

@@ -84,9 +84,13 @@ public final class TextsTest {
         RentedMoments x = new RentedMoments();
         x.open(0);
         x.write(0, 5, 50);
-        Runs.typeText(x, "1=10;99=1;2=3");
+        Runs.typeText(x, "1=10;2=3;99=1");
         Due.is("a cell that is not there", x.readWrites(0), RentedMoments.UNKNOWN);
         Due.is("none is made", x.reader(0, 5), 32);
+        Runs.typeText(x, "1=10;2=3");
+        x.readWrites(0);
+        Due.is("a cell of an earlier text counts no more", x.reader(0, 5), 2 + 4 + 32);
+        x.undo();
         Runs.typeText(x, "1=10;11=9999;1=0;0=7");
         Due.is("all are made", x.readWrites(0), 4);
         Due.is("in their order", x.read(0, 1), 0);

@@ -3,12 +3,15 @@ public final class ToldTest {
     public static void main(String[] args) {
         cell();
         version();
+        sevenOldVersionsOfACell();
         reader();
         readerSumsAndOldVersions();
         lasts();
         lastsWithOthersWhoGo();
         lastsChangesNothing();
+        fortyReaders();
         committed();
+        committedByALaterReader();
         count();
         Due.end("ToldTest");
     }
@@ -63,6 +66,29 @@ public final class ToldTest {
         x.open(1);
         Due.is("the newest's seers who are no widows", x.version(3, 0, 3), 1);
         Due.is("it costs nothing still", x.version(3, 0, 4), 0);
+    }
+
+    private static void sevenOldVersionsOfACell() {
+        RentedMoments x = new RentedMoments();
+        for (int i = 1; i <= 7; i++) {
+            x.open(9);
+            Due.is("commit", Runs.commitOne(x, 5, i * 10), i);
+        }
+        Due.is("one more", Runs.commitOne(x, 5, 80), 8);
+        Due.is("the seven that are seen, and the newest", x.cell(5, 2), 8);
+        Due.is("newest", x.version(5, 0, 0), 80);
+        for (int place = 1; place < 8; place++) {
+            Due.is("value at " + place, x.version(5, place, 0), 70 - place * 10);
+            Due.is("moment at " + place, x.version(5, place, 1), 7 - place);
+        }
+        Due.is("close one in the middle", x.close(6), 1);
+        Due.is("the others stay in order", x.version(5, 4, 0), 20);
+        x.open(0);
+        x.open(0);
+        Due.is("eight are open", x.open(0), RentedMoments.FULL);
+        x.write(15, 5, 1);
+        Due.is("the committed leaves no old one", x.commit(15), 9);
+        Due.is("eight versions", x.cell(5, 2), 8);
     }
 
     private static void reader() {
@@ -144,7 +170,9 @@ public final class ToldTest {
         Due.is("four shared ticks and a fifth", x.lasts(0), 5);
         // 5 coins in each of five ticks, then 10 in each of three, and 5 are left.
         Due.is("until the other is alone", x.lasts(1), 9);
-        Due.is("as a tick tells", x.tick(8), 1);
+        x.tick(1);
+        Due.is("one less after a tick", x.lasts(1), 8);
+        Due.is("as a tick tells", x.tick(7), 1);
         Due.is("left", x.reader(1, 2), 5);
         Due.is("then", x.tick(1), 1);
     }
@@ -159,6 +187,40 @@ public final class ToldTest {
         x.lasts(0);
         x.lasts(1);
         Due.is("lasts changes nothing", before.equals(Runs.told(x)) ? 1 : 0, 1);
+    }
+
+    private static void fortyReaders() {
+        RentedMoments x = new RentedMoments();
+        for (int i = 0; i < 39; i++) {
+            Due.is("forty commits", Runs.commitOne(x, i % 12, i), i + 1);
+        }
+        x.open(9);
+        x.write(39, 0, 4);
+        x.read(39, 3);
+        Due.is("ticks", x.tick(60), 0);
+        Due.is("it lasts", x.lasts(39), RentedMoments.NONE);
+        Due.is("writers", x.cell(0, 4), 1);
+        Due.is("seers", x.cell(0, 3), 1);
+        Due.is("the fortieth", x.commit(39), 40);
+        Due.is("forty commits that wrote", x.count(11), 40);
+        Due.is("the last one's reader", x.committed(39, 0), 39);
+        Due.is("no forty-first", x.committed(40, 0), RentedMoments.UNKNOWN);
+        int[] due = {40, 60, 40, 0, 40, 0, 0, 0, 40, 4, 0, 40, 0, 0, 0, 4, 0};
+        for (int what = 0; what < due.length; what++) {
+            Due.is("count " + what, x.count(what), due[what]);
+        }
+    }
+
+    private static void committedByALaterReader() {
+        RentedMoments x = new RentedMoments();
+        Runs.commitOne(x, 1, 1);
+        Runs.commitOne(x, 2, 1);
+        x.open(0);
+        x.write(2, 9, 9);
+        Runs.commitOne(x, 3, 1);
+        Due.is("commit", x.commit(2), 4);
+        Due.is("moment of the reader", x.committed(3, 1), 2);
+        Due.is("moment that it made", x.committed(3, 2), 4);
     }
 
     private static void committed() {

@@ -12,6 +12,13 @@ final class Due {
         }
     }
 
+    static void isSame(String what, String got, String want) {
+        if (!got.equals(want)) {
+            wrong++;
+            System.out.println(what + " told " + got + ", due is " + want);
+        }
+    }
+
     static void end(String test) {
         if (wrong != 0) {
             System.out.println(test + ": " + wrong + " answers are not as due");

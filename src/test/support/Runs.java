@@ -19,6 +19,14 @@ final class Runs {
         return reader;
     }
 
+    static RentedMoments withReaders(int readers, int coins) {
+        RentedMoments x = new RentedMoments();
+        for (int i = 0; i < readers; i++) {
+            x.open(coins);
+        }
+        return x;
+    }
+
     /** A reader of its own writes one cell and commits; what the commit answers. */
     static int commitOne(RentedMoments x, int cell, int value) {
         int reader = x.open(0);
@@ -28,27 +36,41 @@ final class Runs {
 
     /** What an object tells of itself, of the text, the history and the snapshot nothing but lengths. */
     static String told(RentedMoments x) {
-        StringBuilder all = new StringBuilder();
-        for (int what = 0; what <= 16; what++) {
-            all.append(x.count(what)).append(' ');
+        return toldOfTheState(x) + " history " + x.count(15) + " text " + x.count(16);
+    }
+
+    /** All that undo() and restore() bring back, as far as calls tell it. */
+    static String toldOfTheState(RentedMoments x) {
+        StringBuilder all = new StringBuilder("counts");
+        for (int what = 0; what <= 14; what++) {
+            all.append(' ').append(x.count(what));
         }
         for (int cell = 0; cell < 12; cell++) {
+            all.append(" cell ").append(cell);
             for (int what = 0; what <= 4; what++) {
-                all.append(x.cell(cell, what)).append(' ');
-                for (int place = 0; place < x.cell(cell, 2); place++) {
-                    all.append(x.version(cell, place, what)).append(' ');
+                all.append(' ').append(x.cell(cell, what));
+            }
+            int places = x.cell(cell, 2);
+            for (int place = 1; place < places; place++) {
+                all.append(" version");
+                for (int what = 0; what <= 4; what++) {
+                    all.append(' ').append(x.version(cell, place, what));
                 }
             }
         }
-        for (int reader = 0; reader < x.count(2); reader++) {
+        int readers = x.count(2);
+        for (int reader = 0; reader < readers; reader++) {
+            all.append(" reader ").append(reader);
             for (int what = 0; what <= 11; what++) {
-                all.append(x.reader(reader, what)).append(' ');
+                all.append(' ').append(x.reader(reader, what));
             }
-            all.append(x.lasts(reader)).append(' ');
+            all.append(' ').append(x.lasts(reader));
         }
-        for (int commit = 0; commit < x.count(11); commit++) {
+        int commits = x.count(11);
+        for (int commit = 0; commit < commits; commit++) {
+            all.append(" commit ").append(commit);
             for (int what = 0; what <= 5; what++) {
-                all.append(x.committed(commit, what)).append(' ');
+                all.append(' ').append(x.committed(commit, what));
             }
         }
         return all.toString();

@@ -884,7 +884,7 @@ public final class RentedMoments {
         }
     }
 
-    /** The text, and the writes that were found in it when it was last parsed. */
+    /** The text, and the writes that were found in it when it was last parsed without a fault. */
     private static final class WriteText {
         private final char[] signs = new char[MOST_SIGNS];
         private int length;
@@ -901,7 +901,6 @@ public final class RentedMoments {
 
         /** Tells the fault of the text, or NO_FAULT. */
         int parse() {
-            writes = 0;
             int at = 0;
             for (int i = 0; i < MOST_WRITES; i++) {
                 int cellEnd = endOfNumber(at, MOST_CELL_DIGITS);

@@ -5,6 +5,8 @@ public final class HistoryBoundsTest {
         undoTellsTheStatesThatAreLeft();
         undoRemovesTheLatest();
         undoBringsTheLatestBack();
+        undoBringsValuesOfWritesBack();
+        undoLeavesNothingOfAnUndoneReader();
         undoLeavesTheText();
         undoLeavesTheSnapshot();
         keepTellsTheMoment();
@@ -13,6 +15,7 @@ public final class HistoryBoundsTest {
         restoreNoneIfThereIsNoSnapshot();
         restoreTellsTheMomentThen();
         restoreBringsEverythingBack();
+        restoreBringsCommitsAndReadersBackWhoseNumbersWereGivenAgain();
         restoreKeepsTheSnapshot();
         restoreIsAnAct();
         restoreLeavesTheText();
@@ -68,6 +71,39 @@ public final class HistoryBoundsTest {
         }
         Due.is("15 the oldest ones were dropped", x.undo(), RentedMoments.NONE);
         Due.is("15 the rent stays", x.count(9), 11);
+    }
+
+    /** "A state is everything but ..": also what a reader is about to write */
+    private static void undoBringsValuesOfWritesBack() {
+        RentedMoments x = Runs.withReaders(1, 0);
+        x.write(0, 0, 1);
+        x.write(0, 0, 2);
+        x.undo();
+        Due.is("15 the value of the write", x.read(0, 0), 1);
+        x.commit(0);
+        Due.is("15 as it is committed", x.cell(0, 0), 1);
+    }
+
+    /** The same: a number that is given again has no traces of the reader whose opening was undone */
+    private static void undoLeavesNothingOfAnUndoneReader() {
+        RentedMoments x = new RentedMoments();
+        Runs.commitOne(x, 9, 9);
+        x.keep();
+        x.open(50);
+        x.read(1, 3);
+        x.write(1, 4, 4);
+        Runs.commitOne(x, 8, 8);
+        x.tick(1);
+        x.widow(1, 20);
+        x.close(1);
+        x.restore();
+        Due.is("15 the number again", x.open(6), 1);
+        int[] due = {0, 1, 6, 0, 0, 0, 0, 0, 0, 9, 0, 0};
+        for (int what = 0; what <= 11; what++) {
+            Due.is("15 the new reader " + what, x.reader(1, what), due[what]);
+        }
+        Due.is("15 no write", x.read(1, 4), 0);
+        Due.is("15 no widow before", x.widow(1, 20), 0);
     }
 
     /** "A state is everything but the text" */
@@ -159,6 +195,35 @@ public final class HistoryBoundsTest {
         RentedMoments y = Bounds.busy();
         y.restore();
         Due.isSame("17 two readers alone", Runs.toldOfTheState(y), Runs.toldOfTheState(Runs.withReaders(2, 9)));
+    }
+
+    /** Two commits in skew, a reader without coins, and a widow. */
+    private static RentedMoments withTwoCommits() {
+        RentedMoments x = Runs.withReaders(3, 0);
+        x.read(0, 5);
+        x.write(0, 6, 66);
+        x.read(1, 6);
+        x.write(1, 5, 55);
+        x.commit(0);
+        x.commit(1);
+        x.open(77);
+        x.widow(3, 7);
+        return x;
+    }
+
+    /** The same: other commits and readers have had their numbers since */
+    private static void restoreBringsCommitsAndReadersBackWhoseNumbersWereGivenAgain() {
+        RentedMoments x = withTwoCommits();
+        x.keep();
+        for (int i = 0; i < 4; i++) {
+            x.undo();
+        }
+        Due.is("17 no commit", x.count(11), 0);
+        Due.is("17 another first commit", Runs.commitOne(x, 11, 1), 1);
+        Due.is("17 another second commit", Runs.commitOne(x, 11, 2), 2);
+        x.restore();
+        Due.isSame("17 all is as it was kept", Runs.toldOfTheState(x), Runs.toldOfTheState(withTwoCommits()));
+        Due.is("17 a widow that was", x.widow(3, 1), RentedMoments.NOT_POSSIBLE);
     }
 
     /** "which stays" */

@@ -50,6 +50,7 @@ public final class ToldBoundsTest {
         committedSkewWithEarlierOnes();
         countBadValue();
         countOfANewObject();
+        countOfForbiddenSkew();
         countOfTheLimits();
         tellingChangesNothing();
         Due.end("ToldBoundsTest");
@@ -213,6 +214,11 @@ public final class ToldBoundsTest {
         }
         x.close(2);
         Due.is("19 one is removed from between", x.version(3, 1, 0), 0);
+        x.close(0);
+        x.open(0);
+        Runs.commitOne(x, 3, 40);
+        Due.is("19 the oldest is not the first one", x.version(3, 1, 0), 30);
+        Due.is("19 its moment", x.version(3, 1, 1), 3);
     }
 
     /** "2 for the open readers who see it, 3 for those of them who are no widows" */
@@ -602,11 +608,16 @@ public final class ToldBoundsTest {
         x.commit(3);
         int[] first = {1, 0, 1, 16, 0, 0};
         int[] second = {3, 0, 2, 2049, 64, 0};
+        x.open(0);
+        x.write(4, 1, 1);
+        x.commit(4);
+        Due.is("22 the moment of a later reader", x.committed(2, 1), 2);
+        Due.is("22 the moment that it made", x.committed(2, 2), 3);
         for (int what = 0; what <= 5; what++) {
             Due.is("22 the first, " + what, x.committed(0, what), first[what]);
             Due.is("22 the second, " + what, x.committed(1, what), second[what]);
         }
-        Due.is("22 no third", x.committed(2, 0), RentedMoments.UNKNOWN);
+        Due.is("22 no fourth", x.committed(3, 0), RentedMoments.UNKNOWN);
     }
 
     /** "5 for the earlier commits with which it is in skew" */
@@ -640,6 +651,15 @@ public final class ToldBoundsTest {
         for (int what = 0; what <= 16; what++) {
             Due.is("23 count " + what + " of a new object", x.count(what), what == 9 ? 4 : 0);
         }
+    }
+
+    /** "13 for whether skew is forbidden (1, otherwise 0)" */
+    private static void countOfForbiddenSkew() {
+        RentedMoments x = new RentedMoments();
+        x.forbidSkew(true);
+        Due.is("23 forbidden", x.count(13), 1);
+        x.forbidSkew(false);
+        Due.is("23 not any more", x.count(13), 0);
     }
 
     /** Counts at their greatest: 40 readers, 40 old versions, 99 coins of rent, 4 states, 60 characters */

@@ -42,6 +42,7 @@ public final class TermsBoundsTest {
         skewNeedsOtherCells();
         aCellCountsAsReadAsItCommits();
         skewWithAnyEarlierCommit();
+        noSkewWithACommitThatWasUndone();
         skewIsNotForbiddenAtFirst();
         eachWriteIsAVersionOfThisMoment();
         aCommitWithoutWrites();
@@ -97,6 +98,10 @@ public final class TermsBoundsTest {
         for (int i = 1; i <= 40; i++) {
             Due.is("a commit of one write", Runs.commitOne(x, 0, i), i);
         }
+        x.tick(1);
+        Due.is("the fortieth and a tick", x.count(0), 40);
+        Due.is("are undone", x.undo() + x.undo(), 3 + 2);
+        Due.is("the thirty-ninth", x.count(0), 39);
         RentedMoments y = new RentedMoments();
         Due.is("a commit of twelve writes", y.commit(Runs.openWithText(y, Runs.ALL_CELLS)), 1);
         Due.is("one of the value that was", Runs.commitOne(y, 0, 1), 2);
@@ -376,6 +381,13 @@ public final class TermsBoundsTest {
         Due.is("as a widow", x.reader(0, 3), 0);
         x.tick(1);
         Due.is("after the term", x.reader(0, 3), 4);
+        RentedMoments y = Runs.withReaders(2, 9);
+        Runs.commitOne(y, 0, 1);
+        y.widow(0, 1);
+        Due.is("beside one who pays", y.reader(0, 3), 0);
+        Due.is("the one who pays", y.reader(1, 3), 4);
+        y.tick(1);
+        Due.is("both share it then", y.reader(0, 3), 2);
     }
 
     /** "A reader can be made a widow once, for a term of 1 to 20 ticks." */
@@ -663,6 +675,25 @@ public final class TermsBoundsTest {
         Runs.commitOne(x, 9, 1);
         x.forbidSkew(true);
         Due.is("not the latest one", x.commit(1), RentedMoments.NOT_POSSIBLE);
+    }
+
+    /** The same: what was undone is no earlier commit */
+    private static void noSkewWithACommitThatWasUndone() {
+        RentedMoments x = Runs.withReaders(2, 0);
+        x.read(0, 1);
+        x.read(1, 2);
+        x.write(0, 2, 5);
+        x.write(1, 1, 6);
+        x.commit(0);
+        x.commit(1);
+        Due.is("a pair", x.count(12), 1);
+        x.undo();
+        Due.is("no pair", x.count(12), 0);
+        x.undo();
+        x.forbidSkew(true);
+        Due.is("no earlier commit", x.reader(1, 11), 0);
+        Due.is("the other one is the first now", x.commit(1), 1);
+        Due.is("then it is in skew with that", x.commit(0), RentedMoments.NOT_POSSIBLE);
     }
 
     /** "If the skew is forbidden (at first it is not)" */

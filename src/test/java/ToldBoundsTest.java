@@ -333,6 +333,20 @@ public final class ToldBoundsTest {
         for (int state = 1; state <= 3; state++) {
             Due.is("20 the due in the state " + state, toldOfTheGone(state, 3), 0);
         }
+        RentedMoments x = new RentedMoments();
+        x.open(0);
+        x.open(50);
+        x.open(50);
+        x.open(50);
+        Runs.commitOne(x, 0, 1);
+        Due.is("20 a quarter", x.reader(0, 3), 1);
+        x.tick(1);
+        x.close(1);
+        x.commit(2);
+        Due.is("20 the only one who is open", x.reader(3, 3), 4);
+        for (int reader = 0; reader < 3; reader++) {
+            Due.is("20 beside one who pays, the reader " + reader, x.reader(reader, 3), 0);
+        }
     }
 
     /** "the cells that it has read (as bits)" */

@@ -270,19 +270,8 @@ public final class CellsBoundsTest {
         Due.is("11 no conflict with what it sees", x.commit(1), 2);
     }
 
-    /** Two readers of the moment 0, each has read what the other writes; the first has committed. */
-    private static RentedMoments inSkew() {
-        RentedMoments x = Runs.withReaders(2, 20);
-        x.read(0, 1);
-        x.read(1, 2);
-        x.write(0, 2, 5);
-        x.write(1, 1, 6);
-        x.commit(0);
-        return x;
-    }
-
     private static RentedMoments inForbiddenSkew() {
-        RentedMoments x = inSkew();
+        RentedMoments x = Runs.inSkew(20);
         x.forbidSkew(true);
         return x;
     }
@@ -291,7 +280,7 @@ public final class CellsBoundsTest {
     private static void commitInSkew() {
         Bounds.refused("11 a forbidden skew", CellsBoundsTest::inForbiddenSkew, x -> x.commit(1),
             RentedMoments.NOT_POSSIBLE);
-        Due.is("11 a skew that is not forbidden", inSkew().commit(1), 2);
+        Due.is("11 a skew that is not forbidden", Runs.inSkew(20).commit(1), 2);
         RentedMoments x = inForbiddenSkew();
         x.forbidSkew(false);
         Due.is("11 a skew that is forbidden no more", x.commit(1), 2);

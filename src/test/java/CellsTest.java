@@ -121,21 +121,8 @@ public final class CellsTest {
         Due.is("reading is no conflict", x.commit(1), 3);
     }
 
-    /** Two readers of the moment 0, each reads what the other writes; the first commits. */
-    private static RentedMoments almostSkew() {
-        RentedMoments x = new RentedMoments();
-        x.open(0);
-        x.open(0);
-        x.read(0, 1);
-        x.read(1, 2);
-        x.write(0, 2, 5);
-        x.write(1, 1, 6);
-        x.commit(0);
-        return x;
-    }
-
     private static void skewForbidden() {
-        RentedMoments x = almostSkew();
+        RentedMoments x = Runs.inSkew(0);
         Due.is("would be in skew", x.reader(1, 11), 1);
         Due.is("no conflict", x.reader(1, 10), 0);
         x.forbidSkew(true);
@@ -150,10 +137,10 @@ public final class CellsTest {
     }
 
     private static void whatIsNoSkew() {
-        RentedMoments x = almostSkew();
+        RentedMoments x = Runs.inSkew(0);
         x.write(1, 2, 1);
         Due.is("the same cell is written", x.reader(1, 11), 0);
-        x = almostSkew();
+        x = Runs.inSkew(0);
         x.open(0);
         x.read(2, 2);
         x.write(2, 1, 1);
@@ -180,7 +167,7 @@ public final class CellsTest {
     }
 
     private static void conflictComesBeforeSkew() {
-        RentedMoments x = almostSkew();
+        RentedMoments x = Runs.inSkew(0);
         x.write(1, 7, 7);
         Runs.commitOne(x, 7, 1);
         x.forbidSkew(true);

@@ -665,12 +665,7 @@ public final class TermsBoundsTest {
 
     /** "if it would be in skew with an earlier commit": with any of them */
     private static void skewWithAnyEarlierCommit() {
-        RentedMoments x = Runs.withReaders(2, 0);
-        x.read(0, 1);
-        x.read(1, 2);
-        x.write(0, 2, 5);
-        x.write(1, 1, 6);
-        x.commit(0);
+        RentedMoments x = Runs.inSkew(0);
         Runs.commitOne(x, 8, 1);
         Runs.commitOne(x, 9, 1);
         x.forbidSkew(true);
@@ -679,12 +674,7 @@ public final class TermsBoundsTest {
 
     /** The same: what was undone is no earlier commit */
     private static void noSkewWithACommitThatWasUndone() {
-        RentedMoments x = Runs.withReaders(2, 0);
-        x.read(0, 1);
-        x.read(1, 2);
-        x.write(0, 2, 5);
-        x.write(1, 1, 6);
-        x.commit(0);
+        RentedMoments x = Runs.inSkew(0);
         x.commit(1);
         Due.is("a pair", x.count(12), 1);
         x.undo();
@@ -699,12 +689,7 @@ public final class TermsBoundsTest {
     /** "If the skew is forbidden (at first it is not)" */
     private static void skewIsNotForbiddenAtFirst() {
         Due.is("told", new RentedMoments().count(13), 0);
-        RentedMoments x = Runs.withReaders(2, 0);
-        x.read(0, 1);
-        x.read(1, 2);
-        x.write(0, 2, 5);
-        x.write(1, 1, 6);
-        x.commit(0);
+        RentedMoments x = Runs.inSkew(0);
         Due.is("a commit in skew", x.commit(1), 2);
         Due.is("a pair", x.count(12), 1);
     }

@@ -27,6 +27,17 @@ final class Runs {
         return x;
     }
 
+    /** Two readers of the moment 0, each has read what the other writes; the first has committed. */
+    static RentedMoments inSkew(int coins) {
+        RentedMoments x = withReaders(2, coins);
+        x.read(0, 1);
+        x.read(1, 2);
+        x.write(0, 2, 5);
+        x.write(1, 1, 6);
+        x.commit(0);
+        return x;
+    }
+
     /** A reader of its own writes one cell and commits; what the commit answers. */
     static int commitOne(RentedMoments x, int cell, int value) {
         int reader = x.open(0);
